@@ -46,7 +46,7 @@ public final class CornBarn {
     private final int[][] rows;
     private final int[] rowLengths;
     private final Spread spread;
-    private final Town[] towns;
+    private final Town[] pair;
     private final Story latest;
     private final Story aside;
     private int landCount;
@@ -61,9 +61,9 @@ public final class CornBarn {
         rows = new int[2][MOST_ROW];
         rowLengths = new int[2];
         spread = new Spread();
-        towns = new Town[2];
-        towns[0] = new Town();
-        towns[1] = new Town();
+        pair = new Town[2];
+        pair[0] = new Town();
+        pair[1] = new Town();
         latest = new Story(2);
         aside = new Story(1);
     }
@@ -193,7 +193,7 @@ public final class CornBarn {
             return false;
         }
         asked.ruleNumber = rule;
-        asked.rule = rule == NONE ? null : rules[rule];
+        asked.ownRule = rule == NONE ? null : rules[rule];
         asked.forgetPlans();
         return true;
     }
@@ -372,9 +372,9 @@ public final class CornBarn {
         if (!within(before, 0, MOST_SACKS) || !within(itsBefore, 0, MOST_SACKS)) {
             return NONE;
         }
-        towns[0].begin(first, rows[0], before);
-        towns[1].begin(second, rows[1], itsBefore);
-        latest.tellOfTwo(towns[0], towns[1], n, Math.min(rowLengths[0], rowLengths[1]), road);
+        pair[0].begin(first, rows[0], before);
+        pair[1].begin(second, rows[1], itsBefore);
+        latest.tellOfTwo(pair[0], pair[1], n, Math.min(rowLengths[0], rowLengths[1]), road);
         return latest.seasons;
     }
 
@@ -421,8 +421,8 @@ public final class CornBarn {
     }
 
     private void goAlone(Story story, Plan plan, int n, int before) {
-        towns[0].begin(plan, rows[0], before);
-        story.tellOfOne(towns[0], n, rowLengths[0]);
+        pair[0].begin(plan, rows[0], before);
+        story.tellOfOne(pair[0], n, rowLengths[0]);
     }
 
     private Land landAt(int number) {
@@ -437,19 +437,23 @@ public final class CornBarn {
         return within(amount, 0, MOST_AMOUNT) ? asked : null;
     }
 
-    private Plan planAt(int number, int keepers, int n, int season, int amount) {
+    /** The plan of a land's keepers, not yet reckoned; null, if there are no such ones. */
+    private Plan planFor(int number, int keepers, int n, int season, int amount) {
         Land asked = landFor(number, n, season, amount);
-        if (asked == null || !within(keepers, 0, SORTS - 1)) {
-            return null;
+        return asked == null || !within(keepers, 0, SORTS - 1) ? null : asked.planOf(keepers);
+    }
+
+    private Plan planAt(int number, int keepers, int n, int season, int amount) {
+        Plan plan = planFor(number, keepers, n, season, amount);
+        if (plan != null) {
+            plan.reckonTo(n, season);
         }
-        Plan plan = asked.planOf(keepers);
-        plan.reckonTo(n, season);
         return plan;
     }
 
     private Plan planForAllSeasons(int number, int keepers, int n) {
-        Plan plan = planAt(number, keepers, n, 0, 0);
-        for (int season = 1; plan != null && season < plan.land.seasons; season++) {
+        Plan plan = planFor(number, keepers, n, 0, 0);
+        for (int season = 0; plan != null && season < plan.land.seasons; season++) {
             plan.reckonTo(n, season);
         }
         return plan;
@@ -512,7 +516,7 @@ public final class CornBarn {
         }
 
         final void skipBlanks() {
-            for (int i = 0; i < MOST_BYTES && here() == ' '; i++) {
+            for (int i = at; i < tape.length && tape.bytes[i] == ' '; i++) {
                 at++;
             }
         }
@@ -536,7 +540,12 @@ public final class CornBarn {
         }
 
         final boolean needs(int sign) {
-            return takes(sign) || isWrongAt(at);
+            skipBlanks();
+            if (here() != sign) {
+                return isWrongAt(at);
+            }
+            at++;
+            return true;
         }
 
         /** The fault of the whole text, once all its parts that could be read are. */
@@ -845,12 +854,12 @@ public final class CornBarn {
             return true;
         }
 
+        /** There is always room: a byte of the tape is written down once at most, and a clause's end once more. */
         private boolean writes(int what) {
-            if (codeLength >= code.length) {
-                return isWrongAt(at);
+            if (codeLength < code.length) {
+                code[codeLength] = what;
+                codeLength++;
             }
-            code[codeLength] = what;
-            codeLength++;
             return true;
         }
     }
@@ -1006,16 +1015,16 @@ public final class CornBarn {
         final int[] weights;
         final int[] weightSums;
         final int[] table;
+        final int[] goods;
+        final int[] bestTakings;
+        private final int[] bestSales;
+        private final Plan[] plans;
         int law;
         int ruleNumber;
-        Rule rule;
+        Rule ownRule;
         int buyBelow;
         int sellAbove;
         int granaryRoom;
-        private final int[] goods;
-        private final int[] sales;
-        private final Plan[] plans;
-        private Plan probe;
 
         Land(LandReader draft) {
             seasons = draft.seasons;
@@ -1024,7 +1033,14 @@ public final class CornBarn {
             room = draft.room;
             pays = paysOf(draft);
             goods = goodsOfFirst(pays);
-            sales = bestSales(pays);
+            bestTakings = new int[AMOUNTS];
+            bestSales = new int[AMOUNTS];
+            for (int b = 1; b < AMOUNTS; b++) {
+                int taken = b <= pays.length ? b * pays[b - 1] : 0;
+                boolean better = taken > bestTakings[b - 1];
+                bestTakings[b] = better ? taken : bestTakings[b - 1];
+                bestSales[b] = better ? b : bestSales[b - 1];
+            }
             harvests = draft.harvests.clone();
             sacks = draft.sacks.clone();
             weights = draft.weights.clone();
@@ -1038,7 +1054,7 @@ public final class CornBarn {
                 }
             }
             table = new int[MOST_SEASONS * AMOUNTS];
-            plans = new Plan[SORTS];
+            plans = new Plan[SORTS + 1];
             law = MOST_SACKS;
             ruleNumber = NONE;
         }
@@ -1057,25 +1073,11 @@ public final class CornBarn {
         }
 
         private static int[] goodsOfFirst(int[] pays) {
-            int[] sums = new int[pays.length + 1];
-            for (int e = 0; e < pays.length; e++) {
-                sums[e + 1] = sums[e] + pays[e];
+            int[] sums = new int[MOST_EATEN + 1];
+            for (int e = 1; e <= MOST_EATEN; e++) {
+                sums[e] = sums[e - 1] + (e <= pays.length ? pays[e - 1] : 0);
             }
             return sums;
-        }
-
-        /** How many sacks of so many one who owns all would sell now, of several numbers the least. */
-        private static int[] bestSales(int[] pays) {
-            int[] best = new int[AMOUNTS];
-            int taken = 0;
-            for (int b = 1; b < AMOUNTS; b++) {
-                best[b] = best[b - 1];
-                if (b <= pays.length && b * pays[b - 1] > taken) {
-                    best[b] = b;
-                    taken = b * pays[b - 1];
-                }
-            }
-            return best;
         }
 
         int eatersOf(int brought) {
@@ -1083,7 +1085,7 @@ public final class CornBarn {
         }
 
         int goodsOf(int brought) {
-            return goods[eatersOf(Math.max(0, brought))];
+            return within(brought, 0, MOST_EATEN) ? goods[brought] : 0;
         }
 
         int priceAfter(int brought) {
@@ -1091,7 +1093,7 @@ public final class CornBarn {
         }
 
         int saleOf(int unkept) {
-            return within(unkept, 0, MOST_AMOUNT) ? sales[unkept] : 0;
+            return within(unkept, 0, MOST_AMOUNT) ? bestSales[unkept] : 0;
         }
 
         /** What the last of so many buyers would pay, who sets the price of one who owns all. */
@@ -1134,17 +1136,17 @@ public final class CornBarn {
 
         /** A plan of all keepers whose cost may be set otherwise than the land's. */
         Plan probePlan() {
-            if (probe == null) {
-                probe = new Plan(this, KEEPERS_ALL);
+            if (plans[SORTS] == null) {
+                plans[SORTS] = new Plan(this, KEEPERS_ALL);
             }
-            return probe;
+            return plans[SORTS];
         }
 
         /** Plans hang on the law and the rule. */
         void forgetPlans() {
-            for (int sort = 0; sort < SORTS; sort++) {
-                if (plans[sort] != null) {
-                    plans[sort].forget();
+            for (int i = 0; i < plans.length; i++) {
+                if (plans[i] != null) {
+                    plans[i].forget();
                 }
             }
         }
@@ -1161,6 +1163,7 @@ public final class CornBarn {
         private final int[] kept;
         private final long[] best;
         private long[] welfares;
+        private final int[] gains;
         private final int[] levels;
         private final int[] welfareLevels;
         private final long[] ahead;
@@ -1172,6 +1175,7 @@ public final class CornBarn {
             int cells = land.seasons * MOST_TO_GO * AMOUNTS;
             kept = new int[cells];
             best = new long[sort == KEEPERS_GOOD || sort == KEEPERS_ONE ? cells : 0];
+            gains = sort == KEEPERS_ONE ? land.bestTakings : land.goods;
             levels = new int[MOST_SEASONS];
             welfareLevels = new int[MOST_SEASONS];
             ahead = new long[MOST_SACKS + 1];
@@ -1254,9 +1258,9 @@ public final class CornBarn {
             long sum = 0;
             for (int i = 0; i < land.harvests[then]; i++) {
                 int place = then * MOST_HARVESTS + i;
-                long top = times * land.goodsOf(amount) + best[cell + land.sacks[place]];
+                long top = times * gains[amount] + best[cell + land.sacks[place]];
                 for (int k = 1; k <= most; k++) {
-                    long now = times * (land.goodsOf(amount - k) - cost * k);
+                    long now = times * (gains[amount - k] - cost * k);
                     top = Math.max(top, now + best[cell + land.leftOf(k) + land.sacks[place]]);
                 }
                 sum += land.weights[place] * top;
@@ -1325,9 +1329,9 @@ public final class CornBarn {
             int cell = cellOf(n, season);
             for (int amount = 0; amount <= MOST_AMOUNT; amount++) {
                 int bestKept = 0;
-                long top = times * gainNow(amount) + ahead[0];
+                long top = times * gains[amount] + ahead[0];
                 for (int k = 1; k <= Math.min(amount, most); k++) {
-                    long sum = times * gainNow(amount - k) + ahead[k];
+                    long sum = times * gains[amount - k] + ahead[k];
                     if (sum > top) {
                         top = sum;
                         bestKept = k;
@@ -1336,15 +1340,6 @@ public final class CornBarn {
                 kept[cell + amount] = bestKept;
                 best[cell + amount] = top;
             }
-        }
-
-        /** What these keepers look for, of the sacks that are not kept. */
-        private long gainNow(int unkept) {
-            if (sort == KEEPERS_GOOD) {
-                return land.goodsOf(unkept);
-            }
-            int sold = land.saleOf(unkept);
-            return sold == 0 ? 0 : (long) sold * land.priceOfSale(sold);
         }
 
         /** The sum of weight times what a table says for a season, with so much left for it. */
@@ -1363,8 +1358,8 @@ public final class CornBarn {
             for (int amount = 0; amount <= MOST_AMOUNT; amount++) {
                 int most = Math.min(amount, land.mostKept());
                 int worth = 0;
-                if (n > 1 && land.rule != null) {
-                    worth = land.rule.worthOf(amount, season, n, land.priceAfter(amount), most);
+                if (n > 1 && land.ownRule != null) {
+                    worth = land.ownRule.worthOf(amount, season, n, land.priceAfter(amount), most);
                 }
                 kept[cell + amount] = Math.max(0, Math.min(worth, most));
             }
@@ -1408,14 +1403,14 @@ public final class CornBarn {
         }
 
         void begin(int amount) {
-            Arrays.fill(here, 0);
+            Arrays.fill(here, 0L);
             here[amount] = 1;
         }
 
         void step(Plan plan, int n, int season) {
             Land land = plan.land;
             int then = land.seasonBehind(season);
-            Arrays.fill(behind, 0);
+            Arrays.fill(behind, 0L);
             for (int amount = 0; amount <= MOST_AMOUNT; amount++) {
                 if (here[amount] != 0) {
                     int left = land.leftOf(plan.keptAt(n, season, amount));
@@ -1466,20 +1461,20 @@ public final class CornBarn {
         int stock;
         int paid;
         private int[] harvests;
-        private int left;
+        private int fromBefore;
 
         void begin(Plan newPlan, int[] row, int before) {
             plan = newPlan;
             harvests = row;
-            left = before;
+            fromBefore = before;
             stock = 0;
             paid = 0;
         }
 
         void openSeason(int i, int season, int n) {
-            amount = left + harvests[i];
+            amount = fromBefore + harvests[i];
             kept = plan.keptAt(n, season, amount);
-            left = plan.land.leftOf(kept);
+            fromBefore = plan.land.leftOf(kept);
             brought = amount - kept;
         }
 
