@@ -766,7 +766,9 @@ public final class NaiveModelTest {
             for (int turn = 0; turn < 24; turn++) {
                 int i = turn % 6;
                 test.askLand(i);
-                test.askWorth(test.random.nextInt(6));
+                for (int rule = 0; rule < 6; rule++) {
+                    test.askWorth(rule);
+                }
                 for (int sort = 0; sort < 5; sort++) {
                     test.askKeepers(i, sort);
                     test.askRuns(i, sort);

@@ -117,6 +117,13 @@ public final class PromiseTest {
         due(2, "eleven too many", barn.feed(-1, -1, 0x01010100, 0, 0), -1);
         due(2, "a refused one leaves it", barn.count(4), 230);
         due(2, "ten more", barn.feed(-1, -1, 0x01000001, 0, 0), 240);
+        due(3, "end(239)", barn.end(239), true);
+        for (int i = 0; i < 5; i++) {
+            int[] words = {0, 0, 0, 0, 0};
+            words[i] = 0x00ff0100;
+            due(2, "two at place " + i, barn.feed(words[0], words[1], words[2], words[3], words[4]), -1);
+        }
+        due(2, "one", barn.feed(0, 0, 0, 7, 0), 240);
         due(3, "end(0)", barn.end(0), true);
         due(3, "end(1) of nothing", barn.end(1), false);
         feed(barn, "y 1;w 2 x");
@@ -152,7 +159,8 @@ public final class PromiseTest {
             {"k:[a>1]?1", 4}, {"k:[a", 4}, {"k:[]", 3}, {"k:-1", 2}, {"k:1+", 4}, {"k:1+*2", 4}, {"k:a>=1?2", 4},
             {"k:((((((a=1))))))?1", -1}, {"k:(((((((a=1", 8}, {"k:!!!!!!a=1?1", -1}, {"k:!!!!!!!a=1?1", 8},
             {"k:!!!!!![a]=1?1", 8}, {"k:[[[[[[1]]]]]]", -1}, {"k:!([!", 5}, {"k:!(!([[1]]=1&[[[1", 16},
-            {"k:!!!!!!a=1&!!!!!!a=2?1", -1}, {"k:[1]+[2]*[3]/[4]-[5]+[6]+[7]", -1},
+            {"k:!!!!!!a=1&!!!!!!a=2?1", -1}, {"k:a=1&!!!!!!a=2?1", -1}, {"k:a=[[[[[[2]]]]]]?1", -1},
+            {"k:a=1|((((((a=2))))))?1", -1}, {"k:a=1?[[[[[[2]]]]]]", -1}, {"k:a=1?[[[[[[[2", 12}, {"k:a=[[[[[[[2", 10}, {"k:[1]+[2]*[3]/[4]-[5]+[6]+[7]", -1},
             {" k : a > 1 ? 2 ; k : [ 3 ] ", -1}, {"k:a=1&?1", 6}, {"k:a=1|", 6}, {"k:)", 2}, {"k:1)", 3}, {"k:1]", 3}};
         for (Object[] row : texts) {
             due(4, "fault(1) of \"" + row[0] + "\"", faultOf(1, (String) row[0]), (Integer) row[1]);
@@ -182,6 +190,9 @@ public final class PromiseTest {
         due(5, "a seventh", barn.land(), -1);
         due(5, "its tape", barn.count(4), 3);
         due(5, "six lands", barn.count(0), 6);
+        due(7, "of the sixth", barn.told(5, 0), 1);
+        due(7, "of a seventh", barn.told(6, 0), -1);
+        due(7, "of an eighth", barn.told(7, 0), -1);
         barn.end(0);
         feed(barn, "k:1");
         due(6, "a seventh", barn.rule(), -1);
@@ -205,6 +216,7 @@ public final class PromiseTest {
             due(8, "no harvest", harvest(barn, 0, 2, off, 0), THROWN);
             due(8, "nothing of a harvest", harvest(barn, 0, 2, 0, off), THROWN);
         }
+        due(8, "season 4 of 3", harvest(barn, 0, 4, 0, 0), THROWN);
         due(8, "season 3 of 3", harvest(barn, 0, 3, 0, 0), THROWN);
         due(8, "what 2", harvest(barn, 0, 2, 0, 2), THROWN);
         due(8, "first", harvest(barn, 0, 2, 0, 0), 20);
@@ -300,6 +312,13 @@ public final class PromiseTest {
         due(13, "& ahead of |", worthOf("k:(1=1|1=2)&1=3?1;k:2", 0, 0, 0, 0, 0), 2);
         due(13, "! of the next unit alone", worthOf("k:!1=2|1=1?1;k:2", 0, 0, 0, 0, 0), 1);
         due(13, "! of the next unit alone", worthOf("k:!1=1&1=2?1;k:2", 0, 0, 0, 0, 0), 2);
+        due(13, "!", worthOf("k:!1=1?1;k:2", 0, 0, 0, 0, 0), 2);
+        due(13, "| of two that hold not", worthOf("k:1=2|1=3?1;k:2", 0, 0, 0, 0, 0), 2);
+        due(13, "| of the first", worthOf("k:1=1|1=3?1;k:2", 0, 0, 0, 0, 0), 1);
+        due(13, "| of the second", worthOf("k:1=2|1=1?1;k:2", 0, 0, 0, 0, 0), 1);
+        due(13, "| of both", worthOf("k:1=1|2=2?1;k:2", 0, 0, 0, 0, 0), 1);
+        due(13, "& of the second", worthOf("k:1=2&1=1?1;k:2", 0, 0, 0, 0, 0), 2);
+        due(13, "& of both", worthOf("k:1=1&2=2?1;k:2", 0, 0, 0, 0, 0), 1);
         due(13, "!!", worthOf("k:!!1=1?1;k:2", 0, 0, 0, 0, 0), 1);
         due(13, "less", worthOf("k:1<1?1;k:1<2?2", 0, 0, 0, 0, 0), 2);
         due(13, "more", worthOf("k:1>1?1;k:2>1?2", 0, 0, 0, 0, 0), 2);
@@ -391,12 +410,16 @@ public final class PromiseTest {
         due(21, "a rule that counts down", everOf("k:n"), -1);
         due(21, "a rule that counts to 6", everOf("k:n<7?n;k:6"), 6);
         due(21, "a rule of n 11", everOf("k:n<11?n;k:11"), 11);
+        due(21, "alike with 12 and 13 does not count", everOf("k:n<12?n;k:0"), -1);
         due(21, "in the second season alone", everOf("k:s=1&n<5?n;k:9"), 5);
         due(22, "10 less C above 0", barn.edge(0, 2, 0, 4), 10);
         due(22, "10 less C above 4", barn.edge(0, 2, 0, 2), 6);
         due(22, "nothing kept anyhow", barn.edge(0, 2, 0, 1), 0);
         due(22, "the last season", barn.edge(0, 1, 0, 40), 0);
         due(22, "none", barn.edge(2, 2, 0, 20), -1);
+        CornBarn dear = withLands("y 2;w 30 2;h 0 9 1", "y 2;w 31 2;h 0 9 1");
+        due(22, "30", dear.edge(0, 2, 0, 9), 30);
+        due(22, "above 30", dear.edge(1, 2, 0, 9), -1);
         due(22, "nobody eats", barn.edge(3, 2, 0, 20), 0);
         barn.law(0, 0);
         due(22, "by the law", barn.edge(0, 2, 0, 4), 0);
@@ -426,6 +449,8 @@ public final class PromiseTest {
         due(24, "stays", barn.judge(0, 2, 0), 3);
         due(24, "at none", barn.judge(2, 1, 0), -1);
         due(24, "in the last season", barn.judge(0, 1, 0), 2);
+        due(23, "at the highest amount", barn.tell(2, 0, 40, 1), true);
+        due(24, "at the highest amount", barn.judge(2, 1, 0), 40);
         due(25, "news", barn.news(1, 2, 0, 3), 3);
         due(25, "one harvest: no news", barn.news(0, 2, 0, 4), 0);
         due(25, "n 1", barn.news(1, 1, 0, 3), -1);
@@ -536,6 +561,7 @@ public final class PromiseTest {
         due(29, "room 21", barn.granary(0, 4, 4, 21), false);
         due(29, "room -1", barn.granary(0, 4, 4, -1), false);
         due(29, "no land", barn.granary(1, 4, 4, 1), false);
+        due(29, "zeros", barn.granary(0, 0, 0, 0), true);
         due(30, "run", barn.run(0, 0, 1, 0), 4);
         due(33, "none at first", barn.spent(), 0);
         due(29, "granary", barn.granary(0, 4, 6, 20), true);
@@ -570,6 +596,21 @@ public final class PromiseTest {
         due(34, "of NONE", barn.blame(0, 0, 2, 0), 0);
         due(34, "no run by it", ran(barn, 0, 0, 0), THROWN);
         due(33, "nor spent", barn.spent(), 0);
+    }
+
+    private static void longestRows() {
+        CornBarn barn = withLands("y 1;w 10 2;w 4 1", "y 1;w 9 2");
+        for (int i = 0; i < 40; i++) {
+            barn.row(0, i % 2);
+            barn.row(1, 1);
+        }
+        due(30, "forty", barn.run(0, 1, 2, 0), 40);
+        due(32, "the fortieth", ran(barn, 0, 39, 0), 1);
+        due(32, "no more", ran(barn, 0, 40, 0), THROWN);
+        due(34, "forty", barn.blame(0, 0, 2, 0), 0);
+        due(31, "forty", barn.towns(0, 1, 0, 1, 0, 0, 99), 40);
+        due(32, "the fortieth of the other", ran(barn, 1, 39, 0), 1);
+        due(32, "no more", ran(barn, 1, 40, 0), THROWN);
     }
 
     private static void twoTowns() {
@@ -652,6 +693,7 @@ public final class PromiseTest {
         runs();
         granaries();
         blames();
+        longestRows();
         twoTowns();
         counts();
         System.out.println(asked + " answers, " + wrong + " not as due");
