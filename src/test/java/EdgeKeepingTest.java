@@ -59,6 +59,14 @@ public final class EdgeKeepingTest {
             ANSWERS.due("price of 2, by " + sort, barn.price(0, sort, 1, 0, 2), 5);
             ANSWERS.due("price of 3, by " + sort, barn.price(0, sort, 1, 0, 3), 0);
         }
+        CornBarn keeping = Barns.withRule("y 2;w 9 2;w 5 1", "k:99");
+        ANSWERS.due("all is kept", keeping.sold(0, RULE, 2, 0, 20), 0);
+        ANSWERS.due("all but one", keeping.sold(0, RULE, 2, 0, 21), 1);
+        ANSWERS.due("all but three", keeping.sold(0, RULE, 2, 0, 23), 3);
+        ANSWERS.due("all but four", keeping.sold(0, RULE, 2, 0, 24), 3);
+        ANSWERS.due("price if all is kept", keeping.price(0, RULE, 2, 0, 20), 9);
+        ANSWERS.due("price if all but two are", keeping.price(0, RULE, 2, 0, 22), 5);
+        ANSWERS.due("price if all but three are", keeping.price(0, RULE, 2, 0, 23), 0);
     }
 
     private static void goodsOfAll() {
@@ -330,6 +338,17 @@ public final class EdgeKeepingTest {
         // By the rule one is kept of two at a cost of 30: 10 and 10 eaten.
         CornBarn dear = Barns.withRule("y 1;w 10 1;w 6 1;w 3 1;c 30", "k:a=2?1");
         ANSWERS.due("less than 0", dear.welfare(0, RULE, 2, 0, 2), -10);
+        dear.law(0, 0);
+        ANSWERS.due("by another law", dear.welfare(0, RULE, 2, 0, 2), 16);
+        dear.law(0, 1);
+        dear.by(0, -1);
+        ANSWERS.due("by no rule", dear.welfare(0, RULE, 2, 0, 2), 16);
+        dear.by(0, 0);
+        ANSWERS.due("by the rule again", dear.welfare(0, RULE, 2, 0, 2), -10);
+        // In seasons of 0 and of 4 sacks: nothing, then 19 (and by the rule of two kept twice as much less 60).
+        CornBarn round = Barns.withRule("y 2;w 10 1;w 6 1;w 3 1;c 30;h 0 4 2", "k:2");
+        ANSWERS.due("round the year", round.welfare(0, NONE, 3, 1, 0), 2 * (0 + 19 + 0));
+        ANSWERS.due("round the year, two kept", round.welfare(0, RULE, 3, 1, 0), 2 * (0 + 16 - 60 + 16));
         ANSWERS.sentence(19, "BELOW times the mean of what it takes less C for each KEPT");
         ANSWERS.due("nothing there", barn.takings(0, 1, 0, 0), 0);
         ANSWERS.due("two of three", barn.takings(0, 1, 0, 3), 12);
@@ -427,6 +446,9 @@ public final class EdgeKeepingTest {
         // Kept for one sack: 6 for 3; for three sacks none is kept.
         ANSWERS.due("n 2", barn.news(0, 2, 0, 3), 3);
         ANSWERS.due("n 2, nothing there", barn.news(0, 2, 0, 0), 0);
+        CornBarn cost = Barns.withLands("y 1;w 10 1;w 6 1;w 3 1;h 0 1 1;h 0 3 1;c 2", "y 1;w 10 1;w 6 1;w 3 1;h 0 1 1;h 0 3 1;c 3");
+        ANSWERS.due("6 for 3 at a cost of 2", cost.news(0, 2, 0, 3), 1);
+        ANSWERS.due("6 for 3 at a cost of 3", cost.news(1, 2, 0, 3), 0);
         ANSWERS.due("n 12, one harvest alone is no news", barn.news(1, 12, 0, 40), 0);
         ANSWERS.due("n 13", barn.news(0, 13, 0, 3), -1);
         barn.law(0, 0);

@@ -89,6 +89,9 @@ public final class EdgeRunTest {
         ANSWERS.due("six then", two.after(0, RULE, 3, 1, 6, 1, 0, 6), 1);
         ANSWERS.due("in season 0 nothing", two.after(0, RULE, 3, 1, 6, 2, 0, 0), 1);
         ANSWERS.due("with n 2 nothing", two.after(0, RULE, 2, 1, 6, 1, 0, 4), 1);
+        // Of two in season 1 both are kept, so that nobody eats.
+        ANSWERS.due("the price of what is not kept", two.after(0, RULE, 3, 1, 2, 0, 3, 0), 9);
+        ANSWERS.due("the price of what is not kept, x or more", two.after(0, RULE, 3, 1, 2, 0, 2, 9), 1);
     }
 
     // Rows
@@ -464,12 +467,12 @@ public final class EdgeRunTest {
     private static void blameLeavesTheRun() {
         ANSWERS.sentence(34, "the latest RUN stays; HIDDEN: no such ones");
         CornBarn barn = withRow("y 2;w 10 2;w 4 1;h 0 4 1", 4, 0);
+        ANSWERS.due("two eat, and two; by NONE three, and none", barn.blame(0, ALL, 2, 0), (1 + 1) - (0 + 3));
         barn.granary(0, 1, 9, 1);
         barn.run(0, NONE, 1, 1);
         String first = Barns.ranAll(barn, 0, 0);
         int spent = barn.spent();
-        // Two eat, and two; by NONE three eat, and one, that the granary bought and sells.
-        ANSWERS.due("blame", barn.blame(0, ALL, 2, 0), (1 + 1) - (0 + 2));
+        ANSWERS.due("by NONE one more, that the granary bought and sells", barn.blame(0, ALL, 2, 0), (1 + 1) - (0 + 2));
         ANSWERS.due("blame by nobody", barn.blame(0, NONE, 2, 0), 0);
         ANSWERS.due("hidden", barn.blame(0, ALL, 2, 21), -100000);
         ANSWERS.same("the run", Barns.ranAll(barn, 0, 0), first);

@@ -215,10 +215,12 @@ public final class EdgeTextTest {
                 ANSWERS.due("told(" + land + ", " + what + ")", barn.told(land, what), due[land][what - 2]);
             }
         }
-        CornBarn later = Barns.withLands("y 1;c 1", "y 1;m 2;r 3");
-        ANSWERS.due("c of a later text", later.told(1, 2), 0);
-        ANSWERS.due("m of an earlier text", later.told(0, 3), 0);
-        ANSWERS.due("r of an earlier text", later.told(0, 4), 20);
+        CornBarn later = Barns.withLands("y 1;w 9 9;c 1;m 2;r 3;h 0 4 9", "y 1");
+        int[] bare = {1, 0, 0, 0, 20, 20, -1, 0};
+        for (int what = 0; what < bare.length; what++) {
+            ANSWERS.due("told(1, " + what + ") behind a full one", later.told(1, what), bare[what]);
+        }
+        ANSWERS.due("no harvest of an earlier text", Barns.harvest(later, 1, 0, 0, 1), 1);
     }
 
     private static void oneOrTwoDigits() {
@@ -463,7 +465,10 @@ public final class EdgeTextTest {
     private static void theFirstThatHolds() {
         ANSWERS.sentence(13, "the SUM of the first CLAUSE whose CONDITION holds (or has none), 0 without");
         worths("k:1=2?5", 0, "k:1=2?5;k:2=3?6", 0, "k:1=1?5;k:1=1?6", 5, "k:1=2?5;k:1=1?6;k:7", 6, "k:1=2?5;k:7;k:1=1?6", 7,
-            "k:5;k:6", 5, "k:0;k:6", 0, "k:1=1?0;k:6", 0, "k:1<1?5", 0, "k:1>1?5", 0, "k:0-5", -5);
+            "k:5;k:6", 5, "k:0;k:6", 0, "k:1=1?0;k:6", 0, "k:1<1?5", 0, "k:1>1?5", 0, "k:0-5", -5,
+            "k:1<2?5", 5, "k:2<1?5", 0, "k:2>1?5", 5, "k:1>2?5", 0, "k:2=1?5", 0);
+        worths("k:!1=1?5", 0, "k:!1=2?5", 5, "k:!!1=1?5", 5, "k:1=2|1=3?5", 0, "k:1=1|1=3?5", 5, "k:1=2|1=1?5", 5,
+            "k:1=1|2=2?5", 5, "k:1=1&2=2?5", 5, "k:1=1&1=2?5", 0, "k:1=2&1=1?5", 0, "k:1=2&1=3?5", 0);
     }
 
     private static void noSuchRule() {
