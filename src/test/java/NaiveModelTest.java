@@ -231,7 +231,7 @@ public final class NaiveModelTest {
             for (int s = 0; s < seasons; s++) {
                 harvests.add(new ArrayList<>());
             }
-            int most = random.nextInt(9);
+            int most = random.nextInt(random.nextInt(4) == 0 ? 21 : 9);
             for (int i = 0; i < most; i++) {
                 int p = 1 + random.nextInt(random.nextBoolean() ? 99 : 12);
                 int q = 1 + random.nextInt(9);
@@ -260,12 +260,12 @@ public final class NaiveModelTest {
                 written.append(";c 30;c ").append(cost);
             }
             if (random.nextBoolean()) {
-                mice = 2 + random.nextInt(19);
-                written.append(";m ").append(mice);
+                mice = random.nextInt(8) == 0 ? 0 : 2 + random.nextInt(19);
+                written.append(";m 2;m ").append(mice);
             }
             if (random.nextInt(3) == 0) {
                 room = random.nextInt(21);
-                written.append(";r ").append(room);
+                written.append(";r 0;r ").append(room);
             }
             text = written.toString();
         }
@@ -541,7 +541,9 @@ public final class NaiveModelTest {
     private void tellLands() {
         barn = new CornBarn();
         for (int i = 0; i < 6; i++) {
-            lands[i] = new NaiveLand(random);
+            do {
+                lands[i] = new NaiveLand(random);
+            } while (lands[i].text.length() > 240);
             feed(barn, lands[i].text);
             due("fault(0) of " + lands[i].text, barn.fault(0), -1);
             due("land() of " + lands[i].text, barn.land(), i);
@@ -656,7 +658,7 @@ public final class NaiveModelTest {
 
     private void askTables(int i) {
         NaiveLand land = lands[i];
-        int n = 1 + random.nextInt(6);
+        int n = 1 + random.nextInt(random.nextInt(4) == 0 ? 12 : 6);
         int s = random.nextInt(land.seasons);
         int unlike = -1;
         int judged = -1;
@@ -694,7 +696,7 @@ public final class NaiveModelTest {
 
     private void askRuns(int i, int sort) {
         NaiveLand land = lands[i];
-        int n = 1 + random.nextInt(5);
+        int n = 1 + random.nextInt(random.nextInt(8) == 0 ? 12 : 5);
         int before = random.nextInt(21);
         int[][] seen = run(land, sort, n, before, rows[0]);
         int length = rows[0].length;
